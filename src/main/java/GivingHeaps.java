@@ -519,7 +519,7 @@ public final class GivingHeaps {
         }
 
         int heapAt(int i) {
-            return has(i) ? heaps[i] : 0;
+            return i >= 0 && i < size ? heaps[i] : 0;
         }
 
         boolean hasRoomFor(int more) {
@@ -613,7 +613,7 @@ public final class GivingHeaps {
         }
 
         private int cappedAt(int n, int m) {
-            return isCards(n) && isCards(m) ? capped[n * SIDE + m] : 0;
+            return n >= 0 && n < SIDE && m >= 0 && m < SIDE ? capped[n * SIDE + m] : 0;
         }
 
         int length(int n) {
@@ -846,7 +846,7 @@ public final class GivingHeaps {
         }
 
         private int chosenAt(int m, int g) {
-            return isCards(m) && isCards(g) ? chosen[m * SIDE + g] : 0;
+            return m >= 0 && m < SIDE && g >= 0 && g < SIDE ? chosen[m * SIDE + g] : 0;
         }
 
         int choicesBetween(Row start, Row end) {
