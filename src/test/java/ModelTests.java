@@ -468,17 +468,30 @@ public final class ModelTests {
         due(where, call + "(" + p + ", " + a + ")", simple(x, call, p, a), model.simple(call, p, a));
     }
 
+    /** What the calls of more kinds of arguments are given; each takes those that it needs. */
+    private record Args(int p, int q, int n, int i, int k) {
+    }
+
     private static void callOther(String where, GivingHeaps x, Model model, Random random) {
         String call = OTHERS[random.nextInt(OTHERS.length)];
         int p = some(random, random.nextBoolean() ? 3 : 11);
         int q = some(random, random.nextBoolean() ? 3 : 11);
-        int n = some(random, random.nextBoolean() ? 18 : 5);
+        int n = some(random, call.equals("copy") || random.nextBoolean() ? 3 : 18);
         int i = some(random, 4);
         int k = some(random, random.nextBoolean() ? 20 : 384);
-        String told = call + " of p " + p + ", q " + q + ", n " + n + ", i " + i + ", k " + k;
+        compareOther(where, x, model, call, new Args(p, q, n, i, k));
+    }
+
+    private static void compareOther(String where, GivingHeaps x, Model model, String call, Args args) {
+        int p = args.p();
+        int q = args.q();
+        int n = args.n();
+        int i = args.i();
+        int k = args.k();
+        String told = call + " of " + args;
         boolean offN = Model.offCards(n);
         switch (call) {
-            case "copy": due(where, told, x.copy(p, i, k % 4, q), model.copy(p, i, k % 4, q)); break;
+            case "copy": due(where, told, x.copy(p, i, n, q), model.copy(p, i, n, q)); break;
             case "rule": due(where, told, x.rule(i), model.setRule(i)); break;
             case "many": due(where, told, x.many(n), offN ? BAD : listOf(n).size()); break;
             case "list": due(where, told, x.list(p, n, k), model.list(p, n, k)); break;
@@ -508,10 +521,85 @@ public final class ModelTests {
                 callOther("run " + seed + ", call " + call, x, model, random);
             }
         }
-        due("run " + seed, "digest()", x.digest(), model.digest());
-        due("run " + seed, "asked()", x.asked(), model.walks);
+        lastLooks("run " + seed, x, model);
+    }
+
+    private static void lastLooks(String where, GivingHeaps x, Model model) {
+        due(where, "digest()", x.digest(), model.digest());
+        due(where, "asked()", x.asked(), model.walks);
         for (int f = 1; f <= 5; f++) {
-            due("run " + seed, "findings(" + f + ")", x.findings(f), model.found[f]);
+            due(where, "findings(" + f + ")", x.findings(f), model.found[f]);
+        }
+    }
+
+    // ---- each call with each argument at its edges, on new, empty, full and other objects
+
+    private static final int MIN = Integer.MIN_VALUE, MAX = Integer.MAX_VALUE;
+    private static final int[] ANY = {0};
+    private static final int[] SOME_PLACES = {MIN, -1, 0, 1, 2, 11, 12, MAX};
+    private static final int[] NUMBERS = {MIN, -2, -1, 0, 1, 2, 3, 4, 5, 6, 17, 18, 19, 384, 385, 1000, 1001, MAX};
+    private static final int[] FEW_NUMBERS = {MIN, -1, 0, 1, 2, 3, 4, 17, 18, 19, MAX};
+    // place, cards, number in the list; what is not told is missing
+    private static final int[][][] STATES = {{}, {{0, 0, 0}, {1, 0, 0}, {11, 0, 0}},
+        {{0, 18, 384}, {1, 18, 0}, {11, 18, 100}}, {{0, 9, 20}, {1, 9, 0}, {11, 17, 5}}, {{0, 4, 1}, {1, 4, 3}}};
+
+    private static void prepare(int state, int rule, GivingHeaps x, Model model) {
+        x.rule(rule);
+        model.setRule(rule);
+        for (int[] put : STATES[state]) {
+            x.list(put[0], put[1], put[2]);
+            model.list(put[0], put[1], put[2]);
+        }
+        x.walks(0, 0, 1);
+        model.pair("walks", 0, 0, 1);
+    }
+
+    private static void simpleAtEdges(int state, int rule) {
+        String where = "state " + state + ", rule " + rule;
+        for (String call : new TreeSet<>(List.of(SIMPLE))) {
+            for (int p : SOME_PLACES) {
+                for (int a : NUMBERS) {
+                    GivingHeaps x = new GivingHeaps();
+                    Model model = new Model();
+                    prepare(state, rule, x, model);
+                    due(where, call + "(" + p + ", " + a + ")", simple(x, call, p, a), model.simple(call, p, a));
+                    lastLooks(where + ", behind " + call + "(" + p + ", " + a + ")", x, model);
+                }
+            }
+        }
+    }
+
+    private static void othersAtEdges(int state, int rule) {
+        String where = "state " + state + ", rule " + rule;
+        otherAtEdges(where, state, rule, "copy", SOME_PLACES, SOME_PLACES, FEW_NUMBERS, FEW_NUMBERS, ANY);
+        otherAtEdges(where, state, rule, "rule", ANY, ANY, ANY, NUMBERS, ANY);
+        otherAtEdges(where, state, rule, "many", ANY, ANY, NUMBERS, ANY, ANY);
+        otherAtEdges(where, state, rule, "list", SOME_PLACES, ANY, NUMBERS, ANY, NUMBERS);
+        otherAtEdges(where, state, rule, "rounds", ANY, ANY, NUMBERS, NUMBERS, ANY);
+        otherAtEdges(where, state, rule, "ring", ANY, ANY, NUMBERS, NUMBERS, ANY);
+        otherAtEdges(where, state, rule, "steps", SOME_PLACES, SOME_PLACES, ANY, ANY, ANY);
+        otherAtEdges(where, state, rule, "ways", SOME_PLACES, SOME_PLACES, ANY, ANY, ANY);
+        otherAtEdges(where, state, rule, "walks", SOME_PLACES, SOME_PLACES, ANY, FEW_NUMBERS, ANY);
+        otherAtEdges(where, state, rule, "count", ANY, ANY, ANY, NUMBERS, ANY);
+        otherAtEdges(where, state, rule, "findings", ANY, ANY, ANY, ANY, NUMBERS);
+    }
+
+    private static void otherAtEdges(String where, int state, int rule, String call, int[]... edges) {
+        for (int p : edges[0]) {
+            for (int q : edges[1]) {
+                for (int n : edges[2]) {
+                    for (int i : edges[3]) {
+                        for (int k : edges[4]) {
+                            GivingHeaps x = new GivingHeaps();
+                            Model model = new Model();
+                            prepare(state, rule, x, model);
+                            Args args = new Args(p, q, n, i, k);
+                            compareOther(where, x, model, call, args);
+                            lastLooks(where + ", behind " + call + " of " + args, x, model);
+                        }
+                    }
+                }
+            }
         }
     }
 
@@ -583,6 +671,13 @@ public final class ModelTests {
         }
         for (int n = 0; n <= 9; n++) {
             allPairs(n);
+        }
+        for (int state = 0; state < STATES.length; state++) {
+            for (int rule = 0; rule < 4; rule++) {
+                simpleAtEdges(state, rule);
+            }
+            othersAtEdges(state, 0);
+            othersAtEdges(state, 2);
         }
         for (int seed = 0; seed < RUNS; seed++) {
             run(seed);
