@@ -643,20 +643,41 @@ public final class ModelTests {
         }
     }
 
-    private static void allPairs(int n) {
-        for (int k = 0; k < listOf(n).size(); k++) {
-            for (int j = 0; j < listOf(n).size(); j++) {
-                List<Integer> start = listOf(n).get(k);
-                List<Integer> end = listOf(n).get(j);
-                String where = "of " + n + " from " + k + " to " + j;
+    // An object serves for 512 calls, and a pair takes ten of them.
+    private static final int PAIRS_OF_AN_OBJECT = 50;
+
+    private static void allEnds(int n, int k) {
+        List<List<Integer>> ways = new ArrayList<>();
+        for (int rule = 0; rule < 4; rule++) {
+            ways.add(way(n, rule, k));
+        }
+        Map<List<Integer>, Long> reached = mixed(listOf(n).get(k));
+        GivingHeaps x = new GivingHeaps();
+        for (int j = 0; j < listOf(n).size(); j++) {
+            if (j % PAIRS_OF_AN_OBJECT == 0) {
+                x = new GivingHeaps();
+                x.list(0, n, k);
+            }
+            x.list(1, n, j);
+            String where = "of " + n + " from " + k + " to " + j;
+            due(where, "ways", x.ways(0, 1), reached.getOrDefault(listOf(n).get(j), 0L));
+            for (int rule = 0; rule < 4; rule++) {
+                x.rule(rule);
+                due(where, "steps by rule " + rule, x.steps(0, 1), Model.stepsTo(ways.get(rule), j));
+            }
+        }
+    }
+
+    private static void walksOfPairs(int n, int startsApart, int endsApart) {
+        for (int k = 0; k < listOf(n).size(); k += startsApart) {
+            for (int j = k % endsApart; j < listOf(n).size(); j += endsApart) {
                 GivingHeaps x = new GivingHeaps();
                 x.list(0, n, k);
                 x.list(1, n, j);
-                due(where, "ways", x.ways(0, 1), mixed(start).getOrDefault(end, 0L));
-                due(where, "steps", x.steps(0, 1), Model.stepsTo(way(n, 0, k), j));
                 for (int many = 0; many <= 3; many++) {
                     x.walks(0, 1, many);
-                    due(where, "walks of " + many, x.asked(), walksOf(start, end, many));
+                    due("of " + n + " from " + k + " to " + j, "walks of " + many, x.asked(),
+                        walksOf(listOf(n).get(k), listOf(n).get(j), many));
                 }
             }
         }
@@ -669,8 +690,11 @@ public final class ModelTests {
                 allRounds(n, rule);
             }
         }
-        for (int n = 0; n <= 9; n++) {
-            allPairs(n);
+        for (int n = 0; n <= 18; n++) {
+            for (int k = 0; k < listOf(n).size(); k++) {
+                allEnds(n, k);
+            }
+            walksOfPairs(n, n <= 9 ? 1 : 23, n <= 9 ? 1 : 41);
         }
         for (int state = 0; state < STATES.length; state++) {
             for (int rule = 0; rule < 4; rule++) {
